@@ -670,6 +670,11 @@ public final class Promises {
         fault("weight hours;", 1, 7);
         fault("weights 5;", 1, 0);
         fault("weightfive;", 1, 0);
+        fault("weighta 5;", 1, 0);
+        fault("weightz 5;", 1, 0);
+        fault("weight 5{;", 1, 8);
+        fault("weight 5/;", 1, 8);
+        fault("weight`5;", 1, 6);
         fault("Free;", 1, 0);
         fault("free\t;", 1, 4);
         fault("free;5", 1, 5);
@@ -862,6 +867,14 @@ public final class Promises {
         due("changes", x.lay(8, 14, 1, 7, 0), 2);
         due("four fields", x.lay(4, 30, 1, 3, 0), 3);
         due("four fields", x.lay(4, 30, 1, 2, 0), -1);
+        // what was asked ahead of it is nothing to a call: each time one number alone is another
+        due("other fields", x.lay(8, 6, 1, 4, 0), 1);
+        due("other fields", x.lay(8, 14, 1, 4, 0), 3);
+        due("another gap", x.lay(8, 14, 1, 7, 0), 2);
+        due("another need", x.lay(8, 14, 3, 7, 0), -1);
+        due("another need", x.lay(8, 14, 2, 7, 0), 2);
+        due("fewer slots", x.lay(5, 14, 2, 7, 0), -1);
+        due("a field alone", x.lay(5, 2, 2, 7, 0), 0);
     }
 
     private static void laid() {
@@ -1079,6 +1092,9 @@ public final class Promises {
         same("again(1)", allThatIsTold(x), before);
         due("the tape, too", x.end(20), 20);
         due("the tape, too", x.statute(), 1);
+        x.feed(-1, -1, -1, -1, -1);
+        x.again(1);
+        due("the bytes of the tape, too", x.statute(), 1);
         change(x);
         due("an image stays", x.again(1), true);
         same("again(1)", allThatIsTold(x), before);
