@@ -13,6 +13,7 @@ import java.util.regex.Pattern;
 public final class AgainstModel {
     private static final int RUNS = 300;
     private static final int CALLS = 512;
+    private static final int MOST_AT_ONCE = 32;
     private static long seed = 20261119L;
     private static int wrong = 0;
 
@@ -500,8 +501,10 @@ public final class AgainstModel {
     private static Model m;
     private static Model[] images;
     private static String call;
+    private static int made;
 
     private static boolean same(long got, long want) {
+        made++;
         if (got == want) return true;
         wrong++;
         System.out.println(call + " answered " + got + ", the model " + want);
@@ -636,8 +639,8 @@ public final class AgainstModel {
         switch (dice(6)) {
             case 0:
                 String text = text();
-                x.end(0);
-                m.end(0);
+                call = "end(0)";
+                same(x.end(0), m.end(0));
                 if (!feedText(text)) return false;
                 if (dice(15) == 0) return true;
                 call = "statute() of " + m.tape;
@@ -704,8 +707,9 @@ public final class AgainstModel {
         x = new CliffWater();
         m = new Model();
         images = new Model[3];
+        made = 0;
         boolean fine = true;
-        for (int i = 0; i < CALLS && fine; i++) fine = anyCall(i);
+        for (int i = 0; made <= CALLS - MOST_AT_ONCE && fine; i++) fine = anyCall(i);
         if (!fine) System.out.println("in run " + number);
     }
 
@@ -769,6 +773,8 @@ public final class AgainstModel {
         int bits = 0;
         for (int v : nodes) bits |= 1 << v;
         for (int n0 = 1; n0 <= 4; n0++) {
+            x = new CliffWater();
+            for (int v = 0; v < 10; v++) x.node(v == 1 || v == 5 ? 1 : 4, v == 1 || v == 5 ? 0 : 9);
             for (int g = 0; g <= 7; g++) {
                 int[] row = best[n0][g];
                 call = "lay(" + n + ", " + bits + ", " + n0 + ", " + g + ")";
@@ -781,8 +787,6 @@ public final class AgainstModel {
 
     private static void allTurns() {
         for (int n = 1; n <= 8; n++) {
-            x = new CliffWater();
-            for (int v = 0; v < 10; v++) x.node(v == 1 || v == 5 ? 1 : 4, v == 1 || v == 5 ? 0 : 9);
             turns(n, 4);
             turns(n, 0, 9);
             turns(n, 2, 3, 6);

@@ -46,7 +46,7 @@ public final class Extremes {
         boolean wrong = false;
         for (int run = 0; run < 400 && !wrong; run++) {
             CliffWater x = new CliffWater();
-            for (int i = 0; i < 512; i++) {
+            for (int i = 0; i < 512 - most.length; i++) {
                 Method m = dice(4) == 0 ? calls.get(dice(calls.size())) : calls.get((i + dice(2)) % calls.size());
                 m.invoke(x, arguments(m));
             }
