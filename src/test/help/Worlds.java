@@ -10,6 +10,7 @@ final class Worlds {
     static final World ALL_CHANNELS = Worlds::allChannels;
     static final World ALL_DEEDS = () -> deeds(120);
     static final World ALL_ROWS = () -> rows(150);
+    static final World TAPE_0 = () -> tape(0);
     static final World TAPE_480 = () -> tape(480);
     static final World TAPE_481 = () -> tape(481);
     static final World TAPE_500 = () -> tape(500);
@@ -19,12 +20,17 @@ final class Worlds {
     private Worlds() {
     }
 
+    static CliffWater told() {
+        CliffWater x = new CliffWater();
+        tell(x);
+        return x;
+    }
+
     /**
      * 8 nodes (springs 0 and 1, joint 2, tank 3, wheel 4, fields 5 .. 7), 8 channels (the last one
      * broken), 5 deeds (number 1 void), 9 rows, 4 lines, a fault, a tape of 14 bytes, image 1.
      */
-    static CliffWater told() {
-        CliffWater x = new CliffWater();
+    static void tell(CliffWater x) {
         net(x);
         x.field(0, 5);
         x.field(3, 6);
@@ -47,7 +53,6 @@ final class Worlds {
         Texts.statute(x, "if dry:cut 7;if hours>20 and not owed>3:weight 5;weight 2;if far=999:free;");
         Texts.statute(x, "weight 1;cut 101;");
         Texts.tape(x, "weight 7;cut 1");
-        return x;
     }
 
     private static void net(CliffWater x) {

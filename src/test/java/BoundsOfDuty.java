@@ -55,6 +55,22 @@ public final class BoundsOfDuty {
         Due.is("of the whole WEEK", all.holder(4, 0, 1), 84);
     }
 
+    /** Asked in WEEK 2: what is owed there is nothing to an earlier one. */
+    private static void hoursOfOtherWeeks() {
+        Due.sentence("Terms 3", "hours are of the WEEK that is asked for, not of now");
+        CliffWater x = new CliffWater();
+        x.deed(0, 99, 1, 1);
+        x.deed(50, 50, 2, 2);
+        for (int i = 0; i < 15; i++) {
+            x.go(96);
+        }
+        int[][] known = {{1, 0, 0}, {2, 0, 0}, {1, 1, 100}, {2, 1, 0}, {1, 2, 99}, {2, 2, 1}, {1, 0, 0}, {1, 3, 99}};
+        for (int[] k : known) {
+            Due.is("holder(" + k[0] + ", " + k[1] + ", 0)", x.holder(k[0], k[1], 0), k[2]);
+            Due.is("owed(" + k[0] + ")", x.owed(k[0]), 0);
+        }
+    }
+
     private static void far() {
         Due.sentence("Terms 3", "far: TRAVEL of the PATH from NODE 0 to its FIELD, 999 without one");
         CliffWater x = new CliffWater();
@@ -110,10 +126,10 @@ public final class BoundsOfDuty {
         x.annul(0);
         x.deed(0, 0, 5, 0);
         Texts.law(x, "if owed=0:weight 1;if owed<1:weight 2;if owed>0:weight 4;if owed=1:weight 8;if owed<2:weight 16;if owed>1:weight 32;", 6);
-        Due.is("OWED 1", x.owed(5), 1);
         Due.is("OWED 1", x.holder(5, 0, 2), 4 + 8 + 16);
-        Due.is("OWED -1", x.owed(3), -1);
         Due.is("OWED -1", x.holder(3, 0, 2), 1 + 2 + 16);
+        Due.is("OWED 1", x.owed(5), 1);
+        Due.is("OWED -1", x.owed(3), -1);
         Due.is("OWED 0", x.holder(6, 0, 2), 1 + 2 + 16);
     }
 
@@ -199,6 +215,7 @@ public final class BoundsOfDuty {
     public static void main(String[] args) {
         limitsOfHolder();
         hours();
+        hoursOfOtherWeeks();
         far();
         tests();
         lines();

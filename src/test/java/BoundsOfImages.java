@@ -151,6 +151,47 @@ public final class BoundsOfImages {
         }
     }
 
+    /** Image 2 is a new object's, image 0 that of much. */
+    private static CliffWater imagedTwice() {
+        CliffWater x = new CliffWater();
+        x.image(2);
+        Worlds.tell(x);
+        x.image(0);
+        return x;
+    }
+
+    /** In each place stands another thing than told() has there. */
+    private static void tellOther(CliffWater x) {
+        x.node(0, 1);
+        for (int v = 1; v < 8; v++) {
+            x.node(v < 5 ? 2 : 3, 9 + v);
+        }
+        for (int c = 0; c < 8; c++) {
+            x.channel(1 + c / 3, 4 + c % 3, 1 + c, 400 + c, 5, 1000 + c);
+        }
+        for (int h = 0; h < 8; h++) {
+            x.deed(50 + h, 90 + h, h, 50);
+        }
+        x.deed(0, 167, 6, 0);
+        x.go(96);
+        x.go(96);
+        x.annul(0);
+        for (int q = 0; q < 12; q++) {
+            x.gauge(7, 100 + q, 77, 7);
+        }
+        x.deed(1, 2, 3, 4);
+    }
+
+    private static void otherThings() {
+        Due.sentence("Promise 33", "All that is as image k has it, also where other things came in its place");
+        Untouched.by("again(2), much, again(0)", BoundsOfImages::imagedTwice, x -> {
+            Due.is("again(2)", x.again(2), true);
+            Due.is("NODES of a new object", x.count(0), 0);
+            tellOther(x);
+            return Due.bit(x.again(0));
+        }, 1);
+    }
+
     private static CliffWater imaged(int k) {
         CliffWater x = Worlds.told();
         x.image(k);
@@ -199,6 +240,7 @@ public final class BoundsOfImages {
         counts();
         limits();
         images();
+        otherThings();
         limitsThatComeBack();
         Due.end();
     }

@@ -285,6 +285,11 @@ public final class BoundsOfNet {
             Due.is("path(" + n[0] + ", " + n[1] + ")", x.path(n[0], n[1]), -1);
             Due.is("along(" + n[0] + ", " + n[1] + ", 0)", x.along(n[0], n[1], 0), -1);
         }
+        int[][] ofTold = {{5, 0}, {-1, 5}, {0, 8}, {0, 1}, {5, 6}, {3, 3}, {LOWEST, HIGHEST}};
+        for (int[] n : ofTold) {
+            Untouched.by("path(" + n[0] + ", " + n[1] + ")", Worlds.TOLD, y -> y.path(n[0], n[1]), -1);
+            Untouched.by("along(" + n[0] + ", " + n[1] + ", 0)", Worlds.TOLD, y -> y.along(n[0], n[1], 0), -1);
+        }
         Due.sentence("Promise 7", "NONE: they are one");
         for (int v = -1; v <= 10; v++) {
             Due.is("path(" + v + ", " + v + ")", x.path(v, v), -1);
@@ -313,6 +318,9 @@ public final class BoundsOfNet {
             for (int i : new int[] {-1, 9 - v, LOWEST, HIGHEST}) {
                 Due.is("along(" + v + ", 9, " + i + ")", x.along(v, 9, i), -1);
             }
+        }
+        for (int i : new int[] {-1, 4, LOWEST, HIGHEST}) {
+            Untouched.by("along(0, 5, " + i + ")", Worlds.TOLD, y -> y.along(0, 5, i), -1);
         }
         for (int w = 1; w < 9; w++) {
             Due.is("along(0, " + w + ", " + (w - 1) + ")", x.along(0, w, w - 1), w - 1);

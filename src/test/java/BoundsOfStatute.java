@@ -51,6 +51,16 @@ public final class BoundsOfStatute {
         x.end(9);
         Due.is("its first bytes are as they were", x.statute(), 1);
         Due.is("weight", x.holder(1, 2, 2), 7);
+        Due.sentence("Promise 21", "what stood behind them is no part of the text");
+        int[][] cuts = {{0, 0, -1}, {3, -1, 0}, {6, -1, 6}, {7, -1, 7}, {8, -1, 8}, {9, -1, 9}, {10, -1, 10}, {11, -1, 11},
+            {12, 1, -1}, {13, 1, -1}, {14, 1, -1}, {15, -1, 14}, {17, -1, 14}, {18, -1, 18}, {19, 2, -1}};
+        for (int[] c : cuts) {
+            CliffWater y = new CliffWater();
+            Texts.tape(y, "weight 123 ;  free;");
+            y.end(c[0]);
+            Due.is("statute() of " + c[0] + " bytes", y.statute(), c[1]);
+            Due.is("fault(1) of " + c[0] + " bytes", y.fault(1), c[2]);
+        }
     }
 
     private static void taken() {
@@ -67,6 +77,9 @@ public final class BoundsOfStatute {
             Due.is("count(7)", x.count(7), 1);
             Due.is("weight", x.holder(0, 0, 2), 1);
         }
+        // the same fault at the same place is the latest one in told(), too
+        Untouched.by("statute() with a FAULT", Worlds.TAPE_0, y -> Texts.statute(y, "weight 1;cut 101;"), -1);
+        Untouched.by("statute() with the same FAULT", Worlds.TAPE_0, y -> Texts.statute(y, "weight 9;cut 999;" + "weight 9;".repeat(20)), -1);
         Texts.law(x, "weight 2;cut 9;", 2);
         Due.is("weight", x.holder(0, 0, 2), 2);
         Texts.law(x, "weight 3;", 1);
@@ -182,6 +195,7 @@ public final class BoundsOfStatute {
         Texts.fault(x, "aweight 5;", 1, 0);
         Texts.fault(x, "zweight 5;", 1, 0);
         Texts.fault(x, "weigh 5;", 1, 0);
+        otherWords();
         Due.sentence("Terms 3", "NUMBERS, 1 to 4 digits (a longer row of digits is no token)");
         Texts.law(x, "weight 0;weight 9;weight 00;weight 0010;weight 9999;", 5);
         Due.is("weight", x.holder(0, 0, 2), 10018);
@@ -197,6 +211,23 @@ public final class BoundsOfStatute {
         Texts.fault(x, "if hours==5:free;", 1, 9);
         Texts.fault(x, "if dry::free;", 1, 7);
         Texts.fault(x, "free;;", 1, 5);
+    }
+
+    /** Each word with each of its letters exchanged, left out or doubled is no word of a text. */
+    private static void otherWords() {
+        String[] words = {"if", "and", "not", "weight", "cut", "free", "dry", "hours", "night", "far", "holder", "owed"};
+        for (String word : words) {
+            String before = word.equals("and") ? "if dry " : "weight cut free if".contains(word) ? "" : "if ";
+            String behind = word.equals("weight") || word.equals("cut") ? " 5;" : " ;";
+            for (int i = 0; i < word.length(); i++) {
+                CliffWater x = new CliffWater();
+                String head = word.substring(0, i);
+                String tail = word.substring(i + 1);
+                Texts.fault(x, before + head + "x" + tail + behind, 1, before.length());
+                Texts.fault(x, before + head + tail + behind, 1, before.length());
+                Texts.fault(x, before + head + word.charAt(i) + word.charAt(i) + tail + behind, 1, before.length());
+            }
+        }
     }
 
     // Faults, and which of several is told
@@ -257,6 +288,12 @@ public final class BoundsOfStatute {
         Texts.fault(x, FIVE_TESTS + "dry:free", 1, 43);
         Texts.law(x, "if not dry and hours<1 and hours<1 and hours>0:weight 9;weight 1;", 2);
         Due.is("the 4th TEST counts", x.holder(0, 0, 2), 1);
+        CliffWater y = new CliffWater();
+        Texts.fault(y, "free;".repeat(15) + FIVE_TESTS + "dry:free;", 3, 110);
+        Texts.law(y, "weight 1;".repeat(15) + "if not dry and not dry and not dry and dry:weight 2;", 16);
+        Due.is("the 4th TEST of the 16th LINE counts", y.holder(0, 0, 2), 15);
+        y.dry(0, true);
+        Due.is("the 1st TEST of the 16th LINE counts", y.holder(0, 0, 2), 15);
         Due.sentence("Terms 3", "with places (a token's first byte; the end's)");
         Texts.fault(x, "weight", 1, 6);
         Texts.fault(x, "weight ", 1, 7);

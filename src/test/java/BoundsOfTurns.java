@@ -151,12 +151,44 @@ public final class BoundsOfTurns {
         turns(8, bits(5), 1, 7, 0, 0, 5, 5, 5, 5, 5, 5, 5, 5);
     }
 
+    private static void firstAndLastNode() {
+        Due.sentence("Terms 4", "FIELDS that take part (bits of NODES)");
+        CliffWater x = new CliffWater();
+        for (int v = 0; v < 10; v++) {
+            x.node(4, 1);
+        }
+        int[][] rows = {{0, 0, 0, 9}, {0, 0, 0, 1}, {8, 8, 8, 9}, {4, 4, 4, 5}};
+        for (int[] row : rows) {
+            int fields = bits(row[0], row[3]);
+            Due.is("lay(4, " + fields + ", 1, 7, 0)", x.lay(4, fields, 1, 7, 0), 1);
+            for (int i = 0; i < 4; i++) {
+                Due.is("laid(4, " + fields + ", 1, 7, " + i + ")", x.laid(4, fields, 1, 7, i), row[i]);
+            }
+        }
+        Due.is("lay(8, 1023, 1, 7, 0)", x.lay(8, 1023, 1, 7, 0), -1);
+        Due.is("lay(8, 1024, 1, 7, 0)", x.lay(8, 1024, 1, 7, 0), -1);
+        Due.is("lay(8, 512, 1, 7, 0)", x.lay(8, 512, 1, 7, 0), 0);
+    }
+
+    private static void oneNumberOther() {
+        Due.sentence("Promise 28", "as lay(): what was asked ahead of it is nothing to a call");
+        CliffWater x = fields();
+        int[][] asked = {{8, 48, 1, 4, 1}, {8, 112, 1, 4, 3}, {8, 112, 1, 7, 2}, {8, 112, 3, 7, -1}, {8, 112, 2, 7, 2}, {5, 112, 2, 7, -1},
+            {5, 16, 2, 7, 0}, {5, 16, 2, 8, -1}, {5, 16, 2, 7, 0}, {1, 16, 2, 7, -1}, {1, 16, 1, 7, 0}, {5, 16, 1, 7, 0}};
+        for (int[] a : asked) {
+            Due.is("lay(" + a[0] + ", " + a[1] + ", " + a[2] + ", " + a[3] + ", 0)", x.lay(a[0], a[1], a[2], a[3], 0), a[4]);
+            Due.is("again", x.lay(a[0], a[1], a[2], a[3], 0), a[4]);
+        }
+    }
+
     public static void main(String[] args) {
         limits();
         needs();
         gaps();
         nights();
         order();
+        firstAndLastNode();
+        oneNumberOther();
         Due.end();
     }
 }
